@@ -1225,10 +1225,10 @@ public final class TillPipe {
 
         int emptiest() {
             int found = NONE;
-            int fewest = Integer.MAX_VALUE;
+            int fewest = 0;
             for (int k = 0; k < size; k++) {
                 int coins = Tills.coinsIn(tills[k]);
-                if (coins < fewest) {
+                if (found == NONE || coins < fewest) {
                     fewest = coins;
                     found = k;
                 }
