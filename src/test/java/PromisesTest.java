@@ -25,6 +25,7 @@ public final class PromisesTest {
         serve();
         rows();
         steps();
+        fourCustomers();
         notTold();
         dawn();
         gives();
@@ -582,6 +583,10 @@ public final class PromisesTest {
         TillPipe y = shop("c1,2;l2;t0", "2:aa", "1:a", "1:b");
         lay(y, 0, 0);
         due("the first home, both others served", y.most(), 2);
+        TillPipe again = shop("c1;l2", "1:a", "2:aa", "1:a");
+        due("one till by two ways, one of them better", again.most(), 2);
+        lay(again, 0, 0, 0);
+        due("and then none", again.most(), 0);
         TillPipe none = shop("c1", "2:a");
         due("nobody", none.most(), 0);
     }
@@ -601,6 +606,34 @@ public final class PromisesTest {
         TillPipe one = shop("c1", "1:a");
         due("steps(0) of one", one.steps(0), 0);
         due("steps(1) of one", one.steps(1), NONE);
+    }
+
+    private static void fourCustomers() {
+        // Each gives the coin that is the next one's change, from the last to the first.
+        TillPipe x = shop("c1,2,4,8;t0", "4:d", "2:c", "1:b", "1:a");
+        due("aside", x.aside(0), 6);
+        due("its order", x.aside(1), 3210);
+        due("row(3210)", x.row(3210), 1);
+        due("left(3210)", x.left(3210, 0), 200000);
+        due("row(3201)", x.row(3201), 0);
+        due("row(321) is 0321", x.row(321), 0);
+        due("breaks(4)", x.breaks(4), 123);
+        due("breaks(5)", x.breaks(5), NONE);
+        due("chain", x.chain(), 15);
+        due("most", x.most(), 1);
+        due("helps(2)", x.helps(2), 8);
+        due("helps(0)", x.helps(0), 0);
+        due("rule", tell(x, "y:0", 2), 0);
+        due("worst", x.worst(0, 0), 1);
+        due("its order", x.worst(0, 1), 123);
+        due("run(0, 3210)", x.run(0, 3210), 4);
+        TillPipe y = shop("c1;p2", "1:a", "1:a", "1:a", "1:a");
+        due("rule", tell(y, "y:0", 2), 0);
+        due("all are served always", y.worst(0, 0), 4);
+        due("the first order", y.worst(0, 1), 123);
+        due("breaks(4)", y.breaks(4), NONE);
+        due("most", y.most(), 4);
+        due("left", y.left(3210, NONE), 5);
     }
 
     private static void notTold() {
@@ -657,6 +690,10 @@ public final class PromisesTest {
         TillPipe deeper = shop("c1,5", "1:b");
         due("four are too many", deeper.dawn(1, 0), NONE);
         due("four are too many", deeper.dawn(1, 1), NONE);
+        TillPipe last = shop("c1,2,5,9", "4:d");
+        due("the last kind but one", last.dawn(1, 1), 150000);
+        TillPipe least = shop("c1,2,3,9", "4:d");
+        due("5 by two coins: bc ahead of cb", least.dawn(1, 1), 13 * 50000);
         TillPipe flat = shop("c1,5;l2", "2:b");
         due("three do not fit", flat.dawn(1, 0), NONE);
         TillPipe orders = shop("c1,2,5;t0", "4:c", "1:a");
@@ -848,6 +885,7 @@ public final class PromisesTest {
         due("n above 60", y.best(NONE, 61, 0), NONE);
         due("row below NONE", y.best(-2, 1, 0), NONE);
         due("by a day", y.best(NONE, 60, 0) >= 0, true);
+        due("by a day of one, all alike", y.best(NONE, 1, 1), 0);
     }
 
     private static void days() {
@@ -873,6 +911,7 @@ public final class PromisesTest {
         due("one seed", x.mean(0, 10, 1, 0), 4);
         due("steady of one", x.mean(0, 10, 1, 1), 0);
         due("twenty seeds", x.mean(0, 60, 20, 0), 200);
+        due("n 1, seeds 0 .. 5: 0 1 1 0 1 1", x.mean(0, 1, 6, 0), 4);
         due("k 0", x.mean(0, 1, 0, 0), NONE);
         due("k 21", x.mean(0, 1, 21, 0), NONE);
         due("n 0", x.mean(0, 0, 1, 0), NONE);
@@ -896,6 +935,10 @@ public final class PromisesTest {
         due("none there", x.cover(3), NONE);
         due("no such kind", x.cover(4), NONE);
         due("no such kind", x.cover(-1), NONE);
+        lay(x, 1, 0);
+        due("of two pipes, the second better", x.cover(0), 0);
+        due("of two pipes, the first better", x.cover(1), 2);
+        due("away", x.lift(1), 0);
         lay(x, 2, 1);
         due("on the tray", x.cover(1), 0);
         due("the tray covers nothing", x.cover(0), 1);
@@ -934,6 +977,17 @@ public final class PromisesTest {
         TillPipe z = shop("c1,2,5;t0");
         lay(z, 0, 0, 1, 2);
         due("from the top alone: 5, 7, 8", z.amounts(), 3);
+        TillPipe many = shop("c1,12;p2", "1:b");
+        lay(many, 0, 0, 0, 0, 0, 0);
+        lay(many, 1, 0, 0, 0, 0, 0);
+        lay(many, 2, 0);
+        due("eleven moves", many.change(11, 1), 11);
+        due("amounts", many.amounts(), 11);
+        due("all go out, b comes in", many.result(0, NONE), 2);
+        due("b onto pipe 1", many.result(0, 0), 32);
+        due("rule", tell(many, "y:i", 2), 0);
+        due("by", many.by(0, 0), 1);
+        due("b onto pipe 1", many.till(), 32);
         TillPipe great = shop("c98,99;p2");
         lay(great, 0, 1, 0);
         due("98; 99 with 98 aside", great.amounts(), 2);
@@ -980,6 +1034,8 @@ public final class PromisesTest {
         due("no result", x.wise(0, 1), NONE);
         due("none can behind either: the lowest", x.wise(1, 0), 0);
         due("none", x.wise(1, 1), 0);
+        due("rich: both have one coin, the lowest", x.rich(1, 0), 0);
+        due("poor likewise", x.rich(1, 1), 0);
         TillPipe alone = shop("c1", "1:a");
         due("alone", alone.wise(0, 0), 0);
         due("alone", alone.wise(0, 1), 0);
@@ -1007,6 +1063,9 @@ public final class PromisesTest {
         due("nobody", none.chain(), 0);
         TillPipe z = shop("c1,2,5;l2;t0", "2:aa", "1:a", "2:b");
         due("two of three", z.chain(), 6);
+        TillPipe w = shop("c1,2,5;t0", "3:c", "1:a");
+        lay(w, 0, 1);
+        due("both, though in one order alone", w.chain(), 3);
     }
 
     private static void images() {
