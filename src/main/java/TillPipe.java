@@ -20,9 +20,9 @@ public final class TillPipe {
     private final Shop shopRead = new Shop();
     private final Customer customerRead = new Customer();
     private final Rule ruleRead = new Rule(Rule.ROOM);
-    private final Customer[] customers = new Customer[MOST_CUSTOMERS];
+    private final Customer[] customers = newCustomers();
     private int customersTold;
-    private final Rule[] rules = new Rule[MOST_RULES];
+    private final Rule[] rules = newRules();
     private int rulesTold;
     private int standing;
     private final int[] timesServed = new int[MOST_CUSTOMERS];
@@ -37,12 +37,22 @@ public final class TillPipe {
     private final Order order = new Order();
 
     public TillPipe() {
+    }
+
+    private static Customer[] newCustomers() {
+        Customer[] all = new Customer[MOST_CUSTOMERS];
         for (int i = 0; i < MOST_CUSTOMERS; i++) {
-            customers[i] = new Customer();
+            all[i] = new Customer();
         }
+        return all;
+    }
+
+    private static Rule[] newRules() {
+        Rule[] all = new Rule[MOST_RULES];
         for (int i = 0; i < MOST_RULES; i++) {
-            rules[i] = new Rule(0);
+            all[i] = new Rule(0);
         }
+        return all;
     }
 
     public int feed(int a, int b, int c, int d, int e) {
