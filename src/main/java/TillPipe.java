@@ -555,9 +555,13 @@ public final class TillPipe {
             return number;
         }
 
+        /** A third digit is the number's fault, whatever the two ahead of it say. */
         int bounded(int least, int most) {
             int number = digits(2);
-            if (number != NONE && (number < least || number > most)) {
+            if (number == NONE || at < length && isDigit(bytes[at])) {
+                return NONE;
+            }
+            if (number < least || number > most) {
                 at--;
                 return NONE;
             }

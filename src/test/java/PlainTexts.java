@@ -32,7 +32,7 @@ final class PlainTexts {
                 : part.equals("t") ? n > 1
                 : n < 1 || n <= last;
             if (wrong) {
-                return m.end() - 1;
+                return lastOrThirdDigit(text, m.end());
             }
             last = n;
         }
@@ -44,7 +44,7 @@ final class PlainTexts {
         int upTo = shape < 0 ? text.length() : shape;
         Matcher m = Pattern.compile("[0-9]{1,2}").matcher(text.substring(0, upTo));
         if (m.find() && Integer.parseInt(m.group()) == 0) {
-            return m.end() - 1;
+            return lastOrThirdDigit(text, m.end());
         }
         for (int i = 0; i < upTo; i++) {
             if (text.charAt(i) >= 'a' + kinds && text.charAt(i) <= 'd') {
@@ -52,6 +52,11 @@ final class PlainTexts {
             }
         }
         return shape;
+    }
+
+    // the shape ends ahead of a third digit, so what stands there is looked up in the whole text
+    private static int lastOrThirdDigit(String text, int end) {
+        return end < text.length() && "0123456789".indexOf(text.charAt(end)) >= 0 ? end : end - 1;
     }
 
     static int ruleFault(String text) {

@@ -206,7 +206,9 @@ public final class PromisesTest {
         dueFault(x, 0, "c,", 1);
         dueFault(x, 0, "c0", 1);
         dueFault(x, 0, "c00", 2);
-        dueFault(x, 0, "c000", 2);
+        dueFault(x, 0, "c000", 3);
+        dueFault(x, 0, "c0000", 3);
+        dueFault(x, 0, "c00 0", 2);
         dueFault(x, 0, "c0;p1", 1);
         dueFault(x, 0, "c0 5", 1);
         dueFault(x, 0, "c100", 3);
@@ -216,7 +218,8 @@ public final class PromisesTest {
         dueFault(x, 0, "c5,51", NONE);
         dueFault(x, 0, "c12,12", 5);
         dueFault(x, 0, "c12,11;", 5);
-        dueFault(x, 0, "c12,100", 5);
+        dueFault(x, 0, "c12,100", 6);
+        dueFault(x, 0, "c12,10 0", 5);
         dueFault(x, 0, "c1,100", 5);
         dueFault(x, 0, "c1,", 3);
         dueFault(x, 0, "c1, ", 4);
@@ -228,11 +231,15 @@ public final class PromisesTest {
         dueFault(x, 0, "c1;p0", 4);
         dueFault(x, 0, "c1;p3", 4);
         dueFault(x, 0, "c1;p12", 5);
-        dueFault(x, 0, "c1;p002", 5);
+        dueFault(x, 0, "c1;p002", 6);
+        dueFault(x, 0, "c1;p100:", 6);
+        dueFault(x, 0, "c1;p10:", 5);
         dueFault(x, 0, "c1;p011", 6);
         dueFault(x, 0, "c1;l0", 4);
         dueFault(x, 0, "c1;l6", 4);
+        dueFault(x, 0, "c1;l600", 6);
         dueFault(x, 0, "c1;t2", 4);
+        dueFault(x, 0, "c1;t 990", 7);
         dueFault(x, 0, "c1;t1;", 5);
         dueFault(x, 0, "c1;p1;p1", 6);
         dueFault(x, 0, "c1;l1;p1", 6);
@@ -254,6 +261,8 @@ public final class PromisesTest {
         dueFault(x, 1, "0:a", 0);
         dueFault(x, 1, "00:a", 1);
         dueFault(x, 1, "100:a", 2);
+        dueFault(x, 1, "000:a", 2);
+        dueFault(x, 1, "001:a", 2);
         dueFault(x, 1, "1", 1);
         dueFault(x, 1, "1a", 1);
         dueFault(x, 1, "1 1:a", 2);
