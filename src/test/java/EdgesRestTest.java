@@ -112,6 +112,16 @@ public final class EdgesRestTest extends Edges {
         due(laid(shop("c1,2"), "b0 a2").cover(0), 0);
     }
 
+    void p29_eachKindOnTheTray() {
+        String[] coins = {"a2", "b2", "c2", "d2"};
+        for (int kind = 0; kind < 4; kind++) {
+            TillPipe x = laid(shop("c1,2,5,9"), coins[kind]);
+            for (int other = 0; other < 4; other++) {
+                due(x.cover(other), other == kind ? 0 : NONE);
+            }
+        }
+    }
+
     void p29_theTrayCoversNothing() {
         due(laid(shop("c1,2"), "a0 b0 b2").cover(0), 1);
     }
@@ -122,8 +132,9 @@ public final class EdgesRestTest extends Edges {
     }
 
     void p29_noSuchKindIsRefused() {
-        for (int kind : new int[] {-1, -2, 3, 4, 31, 32, Integer.MIN_VALUE, Integer.MAX_VALUE}) {
+        for (int kind : new int[] {-1, -2, -30, -31, -32, 3, 4, 31, 32, 33, 34, Integer.MIN_VALUE, Integer.MAX_VALUE}) {
             leavesAll(NONE, this::busy, x -> x.cover(kind));
+            leavesAll(NONE, this::full, x -> x.cover(kind < 3 ? kind : kind + 1));
         }
         due(bare().cover(0), NONE);
     }
@@ -508,6 +519,22 @@ public final class EdgesRestTest extends Edges {
     void p36_ofSeveralTheLeastBits() {
         due(shop("c1;l1", "9:a", "1:a", "1:a").chain(), 2);
         due(shop("c1;l2", "1:a", "1:a", "1:a", "1:a").chain(), 3);
+    }
+
+    void p36_bitsAreComparedAsNumbers() {
+        // 0 and 3 together, 1 and 2 together, 1 and 3, 2 and 3: 9, 6, 10, 12
+        due(shop("c1;l4", "3:aaa", "2:aa", "2:aa", "1:a").chain(), 6);
+    }
+
+    void p36_askedAgainOfOtherTills() {
+        TillPipe x = shop("c1;l4", "1:a", "1:a", "1:a", "1:a");
+        due(x.chain(), 15);
+        laid(x, "a0 a0 a0");
+        due(x.chain(), 1);
+        laid(x, "a0");
+        due(x.chain(), 0);
+        due(x.lift(0), 0);
+        due(x.chain(), 1);
     }
 
     void p36_inAnOrderOfTheirs() {

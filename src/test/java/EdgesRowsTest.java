@@ -377,6 +377,22 @@ public final class EdgesRowsTest extends Edges {
         due(shop("c1;l2", "2:aa", "1:a", "1:a").most(), 2);
     }
 
+    void p19_ofTwoWaysToATillTheBetter() {
+        // aa by the second alone, or by the first and the third
+        due(shop("c1;l2", "1:a", "2:aa", "1:a").most(), 2);
+    }
+
+    void p19_askedAgainOfOtherTills() {
+        TillPipe x = shop("c1;l4", "1:a", "1:a", "1:a", "1:a");
+        due(x.most(), 4);
+        laid(x, "a0 a0 a0");
+        due(x.most(), 1);
+        laid(x, "a0");
+        due(x.most(), 0);
+        due(x.lift(0), 0);
+        due(x.most(), 1);
+    }
+
     void p19_withoutCustomersThereIsNone() {
         due(shop("c1").most(), NONE);
         leavesAll(NONE, this::bare, x -> x.most());
@@ -451,6 +467,12 @@ public final class EdgesRowsTest extends Edges {
         dueDawn(shop("c1,2,5", "3:c"), 1, 1, number("b", "", ""));
         dueDawn(shop("c1,2,3,9", "6:d"), 1, 1, number("c", "", ""));
         dueDawn(shop("c1,2,4,9", "5:d"), 1, 1, number("c", "", ""));
+    }
+
+    void p20_coinsOfTheLastKindToo() {
+        dueDawn(shop("c3,5", "7:aaaa"), 1, 1, number("b", "", ""));
+        dueDawn(shop("c2,3,4,9", "5:d"), 1, 1, number("c", "", ""));
+        dueDawn(shop("c3,5", "2:aaaa"), 1, 2, number("bb", "", ""));
     }
 
     void p20_eachOrderOfTheFirstTwo() {
@@ -542,6 +564,13 @@ public final class EdgesRowsTest extends Edges {
         due(x.breaks(1), NONE);
         due(x.breaks(2), NONE);
         due(x.breaks(3), 12);
+    }
+
+    void p21_theLastOf24OrdersMayBeIt() {
+        TillPipe x = laid(shop("c1,3;l4", "2:ab", "1:a", "3:ba", "1:ab"), "a0 b0");
+        due(x.breaks(3), NONE);
+        due(x.breaks(4), 3210);
+        due(x.row(3201), 1);
     }
 
     void p21_mIs1To4() {

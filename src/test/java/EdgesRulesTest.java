@@ -171,6 +171,20 @@ public final class EdgesRulesTest extends Edges {
         due(x.till(), number("", "b", ""));
     }
 
+    void p22_whenNoneOfThreeFitsItIsNotServed() {
+        TillPipe x = ruled(laid(shop("c1,2,5;p2", "4:c"), "a0 b0 b1 b2"), "y:0");
+        due(x.by(0, 0), 0);
+        due(x.till(), number("ab", "b", "b"));
+    }
+
+    void p22_itGivesTheLeastThatIsEnough() {
+        TillPipe x = ruled(shop("c1,2,5", "1:cab", "2:acb"), "y:0");
+        due(x.by(0, 0), 1);
+        due(x.till(), number("a", "", ""));
+        due(x.by(0, 1), 1);
+        due(x.till(), number("ab", "", ""));
+    }
+
     void p22_theGreatestGoesInFirst() {
         TillPipe x = ruled(shop("c1,2,5", "8:abc"), "y:0");
         due(x.by(0, 0), 1);
@@ -336,6 +350,23 @@ public final class EdgesRulesTest extends Edges {
         dueHolds("1=1&1=1&1=2", false);
     }
 
+    void p22_eachComparisonIsATruth() {
+        String[] so = {"1=1", "1<2", "2>1", "!1=2", "!2<1", "!1>2", "(1<2)"};
+        String[] not = {"1=2", "2<1", "1>2", "!1=1", "!1<2", "!2>1", "(1>2)"};
+        for (int i = 0; i < so.length; i++) {
+            for (int j = 0; j < so.length; j++) {
+                dueHolds(so[i] + "&" + so[j], true);
+                dueHolds(so[i] + "&" + not[j], false);
+                dueHolds(not[i] + "&" + so[j], false);
+                dueHolds(not[i] + "&" + not[j], false);
+                dueHolds(so[i] + "|" + so[j], true);
+                dueHolds(so[i] + "|" + not[j], true);
+                dueHolds(not[i] + "|" + so[j], true);
+                dueHolds(not[i] + "|" + not[j], false);
+            }
+        }
+    }
+
     void p22_notIsOfOneUnit() {
         dueHolds("!1=1", false);
         dueHolds("!1=2", true);
@@ -418,6 +449,55 @@ public final class EdgesRulesTest extends Edges {
         dueGives("c1,4,6,9", "10:cbda", 1, 0, 0, 1);
         dueGives("c1,2,3", "4:bbac", 1, 0, 1);
         dueGives("c2,5,6,9", "11:abcd", 1, 0, 0, 1);
+    }
+
+    void p23_ofAllPursesOfFour() {
+        int[][] shops = {{1, 2, 3, 4}, {1, 2, 5, 10}, {2, 5, 6, 9}, {1, 4, 6, 9}};
+        for (int[] values : shops) {
+            for (int price = 1; price < 40; price += 3) {
+                TillPipe x = null;
+                for (int purse = 0; purse < 256; purse++) {
+                    if (purse % 4 == 0) {
+                        x = shop("c" + values[0] + "," + values[1] + "," + values[2] + "," + values[3]);
+                    }
+                    int[] kinds = {purse & 3, purse >> 2 & 3, purse >> 4 & 3, purse >> 6};
+                    StringBuilder text = new StringBuilder().append(price).append(':');
+                    for (int kind : kinds) {
+                        text.append((char) ('a' + kind));
+                    }
+                    due(tell(x, text.toString(), CUSTOMER), purse % 4);
+                    int[] due = given(values, price, kinds);
+                    for (int kind = 0; kind < 4; kind++) {
+                        due(x.gives(purse % 4, kind), due[kind]);
+                    }
+                }
+            }
+        }
+    }
+
+    /** How many of each kind, by the document's words: the least of (worth, coins, fewer of d, of c, of b, of a). */
+    private static int[] given(int[] values, int price, int[] kinds) {
+        int[] best = {NONE, NONE, NONE, NONE};
+        long least = Long.MAX_VALUE;
+        for (int mask = 1; mask < 16; mask++) {
+            int[] counts = new int[4];
+            long worth = 0;
+            for (int i = 0; i < 4; i++) {
+                if ((mask >> i & 1) == 1) {
+                    counts[kinds[i]]++;
+                    worth += values[kinds[i]];
+                }
+            }
+            long rank = worth * 10 + Integer.bitCount(mask);
+            for (int kind = 3; kind >= 0; kind--) {
+                rank = rank * 10 + 4 - counts[kind];
+            }
+            if (worth >= price && rank < least) {
+                least = rank;
+                best = counts;
+            }
+        }
+        return best;
     }
 
     void p23_noneOfAKindIs0() {
@@ -524,6 +604,13 @@ public final class EdgesRulesTest extends Edges {
         TillPipe x = laid(ruled(shop("c1,2,5;t0", "3:c", "1:a"), "y:0"), "b0");
         due(x.worst(0, 0), 1);
         due(x.worst(0, 1), 10);
+    }
+
+    void p25_theLastOf24OrdersMayBeIt() {
+        TillPipe x = laid(ruled(shop("c1,2;p2", "1:a", "3:bb", "4:bb", "3:ab"), "y:0"), "b0 a1 b0");
+        due(x.worst(0, 0), 3);
+        due(x.worst(0, 1), 3210);
+        due(x.run(0, 3201), 4);
     }
 
     void p25_none() {
@@ -704,6 +791,13 @@ public final class EdgesRulesTest extends Edges {
                 due(x.best(NONE, n, seed), best);
             }
         }
+    }
+
+    void p27_oneCustomerIsEnough() {
+        TillPipe x = ruled(shop("c1;p2;l1", "1:a"), "y:0", "y:1");
+        due(x.best(NONE, 1, 0), 0);
+        due(x.best(NONE, 60, 0), 0);
+        due(x.best(0, 0, 0), 0);
     }
 
     void p27_otherNumbersOfCustomersAreRefused() {

@@ -517,6 +517,23 @@ public final class EdgesTextsTest extends Edges {
         dueFault(RULE, "y:1=1?2?3", 7);
     }
 
+    void p04_aSignWantsSomethingBehindIt() {
+        dueFault(RULE, "y:1=1|?1", 6);
+        dueFault(RULE, "y:1=1&?1", 6);
+        dueFault(RULE, "y:(1=1|)?1", 7);
+        dueFault(RULE, "y:(1=1&)?1", 7);
+        dueFault(RULE, "y:1=?1", 4);
+        dueFault(RULE, "y:1<&1=1?1", 4);
+        dueFault(RULE, "y:!?1", 3);
+        dueFault(RULE, "y:!&1=1?1", 3);
+        dueFault(RULE, "y:1+;y:1", 4);
+        dueFault(RULE, "y:1*;y:1", 4);
+        dueFault(RULE, "y:[1+]", 5);
+        dueFault(RULE, "y:[1/]", 5);
+        dueFault(RULE, "y:1=1?;y:1", 6);
+        dueFault(RULE, "y:;y:1", 2);
+    }
+
     void p04_aSumBeginsWithAnAtom() {
         for (String sign : new String[] {"-", "+", "*", "/", "=", ")", "]", "&", "|", ";", ":"}) {
             dueFault(RULE, "y:" + sign + "1", 2);
@@ -705,6 +722,19 @@ public final class EdgesTextsTest extends Edges {
         due(x.customer(0, NONE), 1);
         due(x.customer(0, 0), 0);
         due(x.customer(0, 1), 1);
+    }
+
+    void p05_aCustomerPaysWithItsOwnPurseAlone() {
+        TillPipe x = shop("c1,2,5", "1:acbb", "1:cba");
+        due(tell(x, "c1,2", SHOP), 2);
+        due(tell(x, "2:b", CUSTOMER), 0);
+        due(tell(x, "9:b", CUSTOMER), 1);
+        due(x.result(0, NONE), 1);
+        due(x.result(0, 0), number("b", "", ""));
+        due(x.result(1, NONE), 0);
+        due(x.gives(0, 0), 0);
+        due(x.gives(0, 1), 1);
+        due(x.gives(1, 1), NONE);
     }
 
     void p05_aRuleOfTheWholeTape() {

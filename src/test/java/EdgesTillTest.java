@@ -173,8 +173,9 @@ public final class EdgesTillTest extends Edges {
     }
 
     void p11_noSuchKindIsRefused() {
-        for (int kind : new int[] {-1, 3, 4, 32, Integer.MIN_VALUE, Integer.MAX_VALUE}) {
+        for (int kind : new int[] {-1, -31, -32, 3, 4, 32, 33, Integer.MIN_VALUE, Integer.MAX_VALUE}) {
             leavesAll(NONE, this::busy, x -> x.tray(kind));
+            leavesAll(NONE, this::full, x -> x.tray(kind < 3 ? kind : kind + 1));
         }
         due(shop("c1").tray(1), NONE);
         due(bare().tray(0), NONE);
