@@ -383,6 +383,10 @@ public final class EdgesRowsTest extends Edges {
     }
 
     void p19_askedAgainOfOtherTills() {
+        TillPipe y = shop("c1,2,5;p2", "1:a", "1:b", "3:a");
+        due(y.most(), 2);
+        laid(y, "b0");
+        due(y.most(), 2);
         TillPipe x = shop("c1;l4", "1:a", "1:a", "1:a", "1:a");
         due(x.most(), 4);
         laid(x, "a0 a0 a0");

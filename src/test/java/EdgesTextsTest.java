@@ -199,6 +199,9 @@ public final class EdgesTextsTest extends Edges {
     }
 
     void p04_toLookForFaultsChangesNothing() {
+        leavesAll(NONE, () -> fed(refilled(busy()), "c7;l1;t0"), x -> x.fault(SHOP));
+        leavesAll(NONE, () -> fed(refilled(busy()), "y:9999;y:i"), x -> x.fault(RULE));
+        leavesAll(NONE, () -> fed(new TillPipe(), "c7,8;p2"), x -> x.fault(SHOP));
         leavesAll(0, this::busy, x -> x.fault(SHOP));
         leavesAll(NONE, this::busy, x -> x.fault(CUSTOMER));
         leavesAll(0, this::busy, x -> x.fault(RULE));
@@ -524,6 +527,10 @@ public final class EdgesTextsTest extends Edges {
         dueFault(RULE, "y:(1=1&)?1", 7);
         dueFault(RULE, "y:1=?1", 4);
         dueFault(RULE, "y:1<&1=1?1", 4);
+        dueFault(RULE, "y:(=1)?1", 3);
+        dueFault(RULE, "y:1=1&=1?1", 6);
+        dueFault(RULE, "y:1=1|<1?1", 6);
+        dueFault(RULE, "y:!=1?1", 3);
         dueFault(RULE, "y:!?1", 3);
         dueFault(RULE, "y:!&1=1?1", 3);
         dueFault(RULE, "y:1+;y:1", 4);
